@@ -604,7 +604,6 @@ public final class SeenNumbers {
                 return false;
             }
             kinds[c] = NOTHING;
-            tall[c] = 0;
             if (take('.')) {
                 return true;
             }

@@ -97,6 +97,8 @@ final class LandTest {
         fault("n12;0h0", 6);
         fault("n12;0t:", 6);
         fault("n12;0t.", 6);
+        fault("n12;0.0h", 8);
+        fault("n12;0.0t", 8);
         fault("n12;0.0.;", 8);
         fault("n12;0.0.0", 8);
         fault("n12;0.;0.", 6);
@@ -117,6 +119,16 @@ final class LandTest {
             fault(MIXED.substring(0, p) + "?" + MIXED.substring(p + 1), p);
         }
         fault(MIXED + ".", MIXED.length());
+        SeenNumbers x = Due.landOf(MIXED);
+        for (int n = 0; n < MIXED.length(); n++) {
+            Due.due("the first " + n + " codes of a whole text", x.land(0, 2, 0, n), -100 - n);
+        }
+        String soon = "n12;0.";
+        x.sheet(1, 2, 100);
+        for (int i = 0; i < soon.length(); i++) {
+            x.put(1, 94 + i, soon.charAt(i));
+        }
+        Due.due("too soon at the end of the longest row", x.land(1, 2, 94, 6), -106);
     }
 
     private static void landIsRefused() {
@@ -190,6 +202,10 @@ final class LandTest {
         Due.due("no TREE felled", x.ofTree(1, 3), 0);
         Due.due("TRACE stays", x.trace(), 1);
         Due.due("SHEETS stay", x.cell(0, 0, 2), 'n');
+        for (int k = 0; k < 2; k++) {
+            Due.due("eight houses each time", Due.take(x, EIGHT_HOUSES + "0."), 9);
+            Due.due("eight trees each time", Due.take(x, EIGHT_TREES + "0."), 9);
+        }
         Due.due("less land", Due.take(x, "n12;0.0."), 2);
         Due.due("its HOUSES", x.many(2), 0);
         Due.due("its TREES", x.many(3), 0);

@@ -174,6 +174,7 @@ final class NumbersTest {
         x = Due.landOf("n15;0h10h19.0h10.");
         Due.due("having(0) of one by itself", x.having(0), Due.set(2));
         Due.due("alone() with number 0", x.alone(), Due.set(2));
+        Due.due("several alone()", Due.landOf("n16;0h10h10h19.0h10.").alone(), Due.set(1, 3));
         x = Due.landOf("n33;0h10h10h1;0h10h10h1;0h10h10.");
         // the midst sees all seven others, nobody else does
         Due.due("having(7) of eight", x.having(7), Due.set(4));
@@ -187,7 +188,12 @@ final class NumbersTest {
 
     private static void letters() {
         SeenNumbers x = Due.landOf(THREE_AND_TWO);
-        Due.due("letter(1, 2)", x.letter(1, 2), Due.set(0, 2));
+        Due.due("letter(1, 2) ahead of any other call", x.letter(1, 2), Due.set(0, 2));
+        x.times(0, 1, 0);
+        x.wall(3, 9);
+        x.floors(1, 9);
+        Due.due("letter(1, 2), seen as before", x.letter(1, 2), Due.set(0, 2));
+        Due.take(x, THREE_AND_TWO);
         Due.due("letter(2, 1)", x.letter(2, 1), Due.set(1));
         Due.due("letter(1, 1)", x.letter(1, 1), Due.set(3, 4));
         Due.due("letter(2, 2)", x.letter(2, 2), 0);
@@ -222,7 +228,12 @@ final class NumbersTest {
         mean("n12;0h10.", 0, 1);
         mean("n12;0t10.", 0, 1);
         mean("n14;0h10h10h10h1", 3, 2);
-        SeenNumbers x = Due.landOf(THREE_AND_TWO);
+        SeenNumbers x = Due.landOf("n33;0h10h10h1;0h10h10h1;0h10h10.");
+        // three corners see 5 each, four sides 6, the midst 7: 46 of 8
+        Due.due("mean(0) of eight", x.mean(0), 23);
+        Due.due("mean(1) of eight", x.mean(1), 4);
+        Due.take(x, THREE_AND_TWO);
+        Due.due("mean(0) of fewer houses then", x.mean(0), 6);
         Due.due("mean(2)", x.mean(2), SeenNumbers.LOST);
         Due.due("mean(-1)", x.mean(-1), SeenNumbers.LOST);
         Due.due("mean(0) without LAND", new SeenNumbers().mean(0), SeenNumbers.LOST);

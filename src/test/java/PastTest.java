@@ -144,6 +144,11 @@ final class PastTest {
         Due.due("what -1", x.stood(-1), SeenNumbers.OUTSIDE);
         Due.due("what 2 without LAND", new SeenNumbers().stood(2), SeenNumbers.OUTSIDE);
         Due.due("without LAND", new SeenNumbers().stood(0), SeenNumbers.STATE);
+        x = Due.landOf("n13;0h30t20h3");
+        x.reading(0, 0, 1);
+        x.number(0);
+        x.times(0, 1, 0);
+        Due.due("none in FOG 1, asked first", x.stood(1), SeenNumbers.NONE);
         x = Due.landOf("n12;0h10h1");
         Due.due("without TREES", x.stood(0), 1);
         x.reading(0, 0, 0);

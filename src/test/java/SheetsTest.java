@@ -29,8 +29,10 @@ final class SheetsTest {
             Due.due("its last cell", x.put(k, 99, 7), 1);
             Due.due("none beyond", x.put(k, 100, 7), -13);
             Due.due("7 there", x.cell(k, 99, k % 3), 7);
+            x.put(k, 0, 7);
             x.sheet(k, k % 3, 100);
             Due.due("0 in a new row", x.cell(k, 99, k % 3), 0);
+            Due.due("0 at its begin", x.cell(k, 0, k % 3), 0);
         }
         x.put(0, 5, 3);
         Due.due("SHEET 4", x.sheet(4, 3, -1), SeenNumbers.UNKNOWN);
@@ -251,5 +253,12 @@ final class SheetsTest {
         Due.due("put INDEX", x.fault(), 3);
         x.cell(3, 0, 0);
         Due.due("cell as it should be", x.fault(), 0);
+        x.cell(3, 1, 0);
+        Due.due("cell INDEX", x.fault(), 3);
+        x.cell(3, 1, 3);
+        Due.due("cell OUTSIDE", x.fault(), 0);
+        x.cell(3, 1, 0);
+        x.cell(4, 1, 0);
+        Due.due("cell UNKNOWN", x.fault(), 0);
     }
 }

@@ -24,6 +24,8 @@ final class WhatIfTest {
         Due.due("no WALL of 0", x.walled(0, 1), SeenNumbers.NONE);
         x = Due.landOf("n25;0h10.0.0.0h1;0.0.0.0.0.");
         Due.due("a WALL that is in nobody's way", x.walled(0, 1), 105);
+        x = Due.landOf("n25;0.0.0.0.0.;0h10.0.0.0h1");
+        Due.due("on CELL 0", x.walled(0, 1), 100);
         x = Due.landOf("n15;0h20.0.1.0h2");
         Due.due("the lowest, not the least CELL", x.walled(0, 0), 103);
         x = Due.landOf("n15;0h90.0.0.0h9");
