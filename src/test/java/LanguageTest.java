@@ -1,6 +1,8 @@
 import java.io.IOException;
 import java.nio.file.Files;
 import java.nio.file.Path;
+import java.util.Map;
+import java.util.TreeMap;
 import java.util.regex.Matcher;
 import java.util.regex.Pattern;
 
@@ -13,7 +15,7 @@ final class LanguageTest {
         "Exact\\b", "\\bequals\\b", "\\bhashCode\\b", "\\btoString\\b", "\\bgoto\\b", "\\bvar\\b",
         "while \\(true\\)", "for \\(;", "[^\\x00-\\x7f]",
     };
-    private static final int MOST_LINES = 60, MOST_PARAMETERS = 7, MOST_CLASSES = 12;
+    private static final int MOST_LINES = 60, MOST_PARAMETERS = 7, MOST_CLASSES = 12, MOST_DEEP = 8;
 
     private LanguageTest() {
     }
@@ -32,6 +34,7 @@ final class LanguageTest {
         Due.holds("at most " + MOST_CLASSES + " classes", count(text, "\\b(class|enum|record|interface) \\w+")
             <= MOST_CLASSES);
         methods(text);
+        deepCalls(text);
         Due.end(LanguageTest.class);
     }
 
@@ -44,20 +47,50 @@ final class LanguageTest {
         return (int) Pattern.compile(what).matcher(text).results().count();
     }
 
-    /** A method's head ends its line with an opening brace; its end is the brace below its first sign. */
-    private static void methods(String text) {
-        Matcher m = Pattern.compile("(?m)^( +)(?:(?:public|private|static|final) )*[\\w\\[\\]]+ (\\w+)\\(([^)]*)\\) \\{$")
+    private static Matcher heads(String text) {
+        return Pattern.compile("(?m)^( +)(?:(?:public|private|static|final) )*(?!else )[\\w\\[\\]]+ (?!if\\b|for\\b)(\\w+)\\(([^)]*)\\) \\{$")
             .matcher(text);
+    }
+
+    /** A method's head ends its line with an opening brace; its end is the brace below its first sign. */
+    private static String body(String text, Matcher head) {
+        int end = text.indexOf("\n" + head.group(1) + "}", head.end());
+        return text.substring(head.end(), end);
+    }
+
+    private static void methods(String text) {
         int found = 0;
-        while (m.find()) {
-            if (m.group().trim().startsWith("else ") || m.group(2).matches("if|for|while|switch")) {
-                continue;
-            }
+        for (Matcher m = heads(text); m.find();) {
             found++;
-            int end = text.indexOf("\n" + m.group(1) + "}", m.end());
-            Due.holds(m.group(2) + " is short", end > 0 && count(text.substring(m.start(), end), "\n") <= MOST_LINES);
+            Due.holds(m.group(2) + " is short", count(body(text, m), "\n") <= MOST_LINES);
             Due.holds(m.group(2) + " takes few", m.group(3).split(",").length <= MOST_PARAMETERS);
         }
         Due.holds("methods are found", found > 60);
+    }
+
+    /** By the names alone, so that two methods of one name count as one; the library's functions count, too. */
+    private static void deepCalls(String text) {
+        Map<String, String> bodies = new TreeMap<>();
+        for (Matcher m = heads(text); m.find();) {
+            bodies.merge(m.group(2), body(text, m), String::concat);
+        }
+        for (String name : bodies.keySet()) {
+            int deep = deep(name, bodies, 1);
+            Due.holds(name + " goes " + deep + " deep", deep <= MOST_DEEP);
+        }
+    }
+
+    /** A recursion would end at the bound, and be too deep. */
+    private static int deep(String name, Map<String, String> bodies, int level) {
+        if (level > MOST_DEEP || !bodies.containsKey(name)) {
+            return level;
+        }
+        int deepest = level;
+        for (Matcher m = Pattern.compile("\\b(\\w+)\\(").matcher(bodies.get(name)); m.find();) {
+            if (!m.group(1).matches("if|for|while|switch|return")) {
+                deepest = Math.max(deepest, deep(m.group(1), bodies, level + 1));
+            }
+        }
+        return deepest;
     }
 }

@@ -8,6 +8,7 @@ final class PastTest {
     public static void main(String[] args) {
         changes();
         readings();
+        fullOfReadings();
         readingsAreRefused();
         takenBack();
         fogs();
@@ -39,7 +40,18 @@ final class PastTest {
         Due.due("the last YEAR is the next one", x.change(0), 30);
         x.times(29, 1, 0);
         Due.due("in FOG 1 nothing changes", x.change(0), SeenNumbers.NONE);
-        Due.due("change(2)", x.change(2), SeenNumbers.UNKNOWN);
+        x = Due.landOf("n14;0h60t50t30h6");
+        Due.due("the first of two TREES that grow into the line", x.change(0), 2);
+        x.fell(0, true);
+        Due.due("the other one", x.change(0), 6);
+        x = Due.landOf("n13;0h10t90h1");
+        Due.due("hidden for ever", x.change(0), SeenNumbers.NONE);
+        x = Due.landOf("n33;0h10t10h1;0.0.0.;0h10.0.");
+        x.floors(0, 1);
+        x.floors(1, 1);
+        Due.due("from 2 to 1", x.change(0), 2);
+        Due.due("nobody lost", x.change(2), SeenNumbers.NONE);
+        Due.due("change(3)", x.change(3), SeenNumbers.UNKNOWN);
         Due.due("change(-1)", x.change(-1), SeenNumbers.UNKNOWN);
         Due.due("change without LAND", new SeenNumbers().change(0), SeenNumbers.UNKNOWN);
     }
@@ -54,6 +66,23 @@ final class PastTest {
         Due.due("a ninth one of no HOUSE", x.reading(2, 0, 0), SeenNumbers.UNKNOWN);
         Due.due("a ninth one in YEAR 31", x.reading(0, 31, 0), SeenNumbers.OUTSIDE);
         Due.due("eight stay", x.many(4), 8);
+    }
+
+    private static void fullOfReadings() {
+        SeenNumbers x = Due.landOf(TREE_BETWEEN);
+        for (int k = 0; k < 8; k++) {
+            x.reading(0, k, k < 2 ? 1 : 0);
+        }
+        Due.due("FULL", x.reading(0, 0, 0), SeenNumbers.FULL);
+        Due.due("a reading that is FULL is none", x.fogs(), 1020);
+        Due.due("the eight are so, if the TREE stood", x.stood(1), 1);
+        Due.due("one back", x.back(1), 7);
+        Due.due("room for one", x.reading(1, 30, 1), 7);
+        Due.due("which counts", x.stood(0), 0);
+        Due.due("FULL again", x.reading(1, 30, 1), SeenNumbers.FULL);
+        Due.due("all eight back", x.back(8), 0);
+        Due.due("none is left to take back", x.back(1), SeenNumbers.OUTSIDE);
+        Due.due("the first one's number", x.reading(1, 30, 7), 0);
     }
 
     private static void readingsAreRefused() {

@@ -52,6 +52,14 @@ final class SheetsTest {
         Due.due("had a row of none", x.lose(3), 1);
         Due.due("had nothing again", x.lose(3), 0);
         Due.due("put to nothing", x.put(3, -1, 1), -11);
+        x.sheet(3, 0, 2);
+        x.put(3, 1, 9);
+        x.sheet(2, 1, 1);
+        Due.due("had a row", x.lose(3), 1);
+        Due.due("the other SHEET has its row still", x.cell(2, 0, 1), 0);
+        Due.due("a row of another LANE then", x.sheet(3, 2, 3), 1);
+        Due.due("with nothing of the lost one", x.cell(3, 1, 2), 0);
+        Due.due("and no longer of that LANE", x.cell(3, 1, 0), SeenNumbers.LOST);
         Due.due("SHEET 4", x.lose(4), SeenNumbers.UNKNOWN);
         Due.due("SHEET -1", x.lose(-1), SeenNumbers.UNKNOWN);
     }
@@ -133,6 +141,20 @@ final class SheetsTest {
         Due.due("fault() of it", x.fault(), 0);
         Due.due("all", x.copy(1, 0, 0, 2, 4), 4);
         row(x, 0, 3, 4, 0, 0, 0, 0);
+        Due.due("to where they are", x.copy(0, 0, 0, 0, 6), 6);
+        row(x, 0, 3, 4, 0, 0, 0, 0);
+        x.sheet(2, 2, 0);
+        x.sheet(3, 2, 0);
+        Due.due("none of none", x.copy(2, 0, 3, 0, 0), 0);
+        Due.due("one of none", x.copy(2, 0, 3, 0, 1), -13);
+        x.sheet(2, 2, 100);
+        x.sheet(3, 2, 100);
+        x.put(2, 0, Integer.MIN_VALUE);
+        x.put(2, 99, Integer.MAX_VALUE);
+        Due.due("the longest row", x.copy(2, 0, 3, 0, 100), 100);
+        Due.due("its first cell", x.cell(3, 0, 2), Integer.MIN_VALUE);
+        Due.due("its last cell", x.cell(3, 99, 2), Integer.MAX_VALUE);
+        Due.due("one more than that", x.copy(2, 0, 3, 0, 101), -13);
     }
 
     private static void copiesAreRefused() {

@@ -41,6 +41,21 @@ final class WhatIfTest {
         x.fell(0, true);
         Due.due("no WALL on a felled TREE", x.walled(0, 0), SeenNumbers.NONE);
         Due.due("nor there for another NUMBER", x.walled(0, 1), SeenNumbers.NONE);
+        Due.due("where no CELL has nothing", Due.landOf("n12;0h10h1").walled(0, 1), SeenNumbers.NONE);
+        x = Due.landOf("n14;0h10.0.0h1");
+        x.wall(1, 9);
+        Due.due("in place of it the lowest one is in the way, too", x.walled(0, 0), 101);
+        Due.due("nor is any of 1 .. 9 lower than the line of 1", x.walled(0, 1), SeenNumbers.NONE);
+        x = Due.landOf("n14;0h20.0.0h2");
+        x.wall(1, 9);
+        Due.due("low in its place", x.walled(0, 1), 101);
+        for (int tall = 1; tall <= 9; tall++) {
+            String text = "n13;0h" + tall + "0.0h" + tall;
+            Due.due("the lowest WALL in the way of " + tall, Due.landOf(text).walled(0, 0), 100 * tall + 1);
+        }
+        x = Due.landOf("n56;0h10h19.9.9.9.;9.9.9.9.9.9.;9.9.9.9.9.9.;9.9.9.9.9.9.;9.9.9.9.0h10.");
+        x.times(0, 1, 0);
+        Due.due("of no matter where: the least CELL", x.walled(2, 0), 102);
     }
 
     private static void leastFloors() {
@@ -54,6 +69,15 @@ final class WhatIfTest {
         Due.due("which stay", x.floors(0, 5), 5);
         Due.due("nine", Due.landOf("n13;0h15.0h1").raised(0, 1), 9);
         Due.due("ten were too many", Due.landOf("n13;0h16.0h1").raised(0, 1), SeenNumbers.NONE);
+        for (int g = 2; g <= 8; g++) {
+            Due.due("over " + g, Due.landOf("n13;0h1" + g + ".0h" + g).raised(0, 1), g);
+        }
+        x = Due.landOf("n13;0h40.0h1");
+        x.wall(1, 4);
+        x.floors(1, 9);
+        Due.due("FLOORS of the other stay", x.raised(0, 1), 0);
+        x.floors(1, 0);
+        Due.due("without them", x.raised(0, 1), 4);
         Due.due("on GROUND", Due.landOf("n13;2h15.0h1").raised(0, 1), 7);
         x = Due.landOf("n13;0c12.0h1");
         Due.due("a CHIMNEY by law 0", x.raised(0, 1), 3);
@@ -84,6 +108,14 @@ final class WhatIfTest {
         Due.due("of several the least set", x.felling(0, 1), Due.set(0));
         Due.due("both for 2", x.felling(0, 2), Due.set(0, 1));
         Due.due("without TREES", Due.landOf("n12;0h10h1").felling(0, 1), 0);
+        String six = "n25;0h10t90t90t90h1;0h10t90t90t90h1";
+        Due.due("three of six", Due.landOf(six).felling(0, 3), Due.set(0, 1, 2));
+        Due.due("three of six, the last ones", Due.landOf(six).felling(2, 3), Due.set(3, 4, 5));
+        x = Due.landOf("n33;0.0t10t1;0t10h10t1;0t10t10t1");
+        Due.due("none of seven for one by itself", x.felling(0, 0), 0);
+        Due.due("nor all of them for more", x.felling(0, 1), SeenNumbers.NONE);
+        x = Due.landOf("n26;0t90t90t90t90t90t9;0h10t90t90.0.0h1");
+        Due.due("the last two of eight", x.felling(0, 1), Due.set(6, 7));
         x = Due.landOf("n13;0h30t20h3");
         x.times(2, 9, 0);
         Due.due("a TREE of the YEAR", x.felling(0, 1), Due.set(0));
@@ -126,6 +158,8 @@ final class WhatIfTest {
         x.times(0, 2, 0);
         Due.due("too far for FOG 2", x.fresh(3, 1, 0), 0);
         Due.due("near enough", x.fresh(2, 1, 0), 1);
+        Due.due("without HOUSES", Due.landOf("n12;0.0.").fresh(1, 9, 0), 0);
+        Due.due("without HOUSES none is another", Due.landOf("n12;0.0.").fresh(1, 9, 1), 0);
         Due.due("GROUND counts", Due.landOf("n13;0h11.1.").fresh(2, 1, 0), 1);
         Due.due("GROUND counts on the way", Due.landOf("n13;0h11.0.").fresh(2, 1, 0), 0);
     }
@@ -176,6 +210,9 @@ final class WhatIfTest {
         Due.due("free(1, 8)", x.free(1, 8), Due.set(4));
         x = Due.landOf("n56;0.0.0.0.0.0.;0.0.0.0.0.0.;0.0.0.0.0.0.;0.0.0.0.0.0.;0.0.0.0.0t10.");
         Due.due("all CELLS with nothing", x.free(9, 0), (1L << 30) - 1 - (1L << 28));
+        Due.due("the last CELL alone", Due.landOf("n12;0h10.").free(1, 1), Due.set(1));
+        Due.due("no CELL with nothing", Due.landOf("n12;0h10h1").free(1, 1), 0);
+        Due.due("without HOUSES", Due.landOf("n12;0.0.").free(9, 0), Due.set(0, 1));
         Due.due("free(0, 0)", x.free(0, 0), SeenNumbers.LOST);
         Due.due("free(10, 0)", x.free(10, 0), SeenNumbers.LOST);
         Due.due("free(1, -1)", x.free(1, -1), SeenNumbers.LOST);
