@@ -2,6 +2,7 @@ import java.io.IOException;
 import java.nio.file.Files;
 import java.nio.file.Path;
 import java.util.Map;
+import java.util.Set;
 import java.util.TreeMap;
 import java.util.regex.Matcher;
 import java.util.regex.Pattern;
@@ -15,6 +16,8 @@ final class LanguageTest {
         "Exact\\b", "\\bequals\\b", "\\bhashCode\\b", "\\btoString\\b", "\\bgoto\\b", "\\bvar\\b",
         "while \\(true\\)", "for \\(;", "[^\\x00-\\x7f]",
     };
+    private static final Set<String> LIBRARY = Set.of("Math.abs", "Math.max", "Integer.bitCount", "System.arraycopy",
+        "Long.MIN_VALUE");
     private static final int MOST_LINES = 60, MOST_PARAMETERS = 7, MOST_CLASSES = 12, MOST_DEEP = 8;
 
     private LanguageTest() {
@@ -33,6 +36,7 @@ final class LanguageTest {
             .matcher(text).find());
         Due.holds("at most " + MOST_CLASSES + " classes", count(text, "\\b(class|enum|record|interface) \\w+")
             <= MOST_CLASSES);
+        library(text);
         methods(text);
         deepCalls(text);
         Due.end(LanguageTest.class);
@@ -45,6 +49,13 @@ final class LanguageTest {
 
     private static int count(String text, String what) {
         return (int) Pattern.compile(what).matcher(text).results().count();
+    }
+
+    /** A name with a great first letter ahead of a dot is a class; the program's own have no static calls. */
+    private static void library(String text) {
+        for (Matcher m = Pattern.compile("\\b[A-Z]\\w*[a-z]\\w*\\.\\w+").matcher(text); m.find();) {
+            Due.holds(m.group() + " is of the library's part", LIBRARY.contains(m.group()));
+        }
     }
 
     private static Matcher heads(String text) {
@@ -63,6 +74,9 @@ final class LanguageTest {
         for (Matcher m = heads(text); m.find();) {
             found++;
             Due.holds(m.group(2) + " is short", count(body(text, m), "\n") <= MOST_LINES);
+            boolean isConstructor = Character.isUpperCase(m.group(2).charAt(0));
+            Due.holds(m.group(2) + " makes no object: all calls live in one room",
+                isConstructor || count(body(text, m), "\\bnew\\b|\\.clone\\(") == 0);
             Due.holds(m.group(2) + " takes few", m.group(3).split(",").length <= MOST_PARAMETERS);
         }
         Due.holds("methods are found", found > 60);
